@@ -477,14 +477,8 @@ public final class Lensbench {
         if (power == 0) {
             return 0.0;
         }
-        return power / 100.0 * (1.0 + (colour - 1) * spreadOf(glass));
-    }
-
-    private static double spreadOf(int glass) {
-        if (glass == 1) {
-            return 0.02;
-        }
-        return glass == 2 ? 0.05 : 0.0;
+        double spread = glass == 1 ? 0.02 : glass == 2 ? 0.05 : 0.0;
+        return power / 100.0 * (1.0 + (colour - 1) * spread);
     }
 
     private void lineUp(int colour) {

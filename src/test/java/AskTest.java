@@ -11,11 +11,13 @@ public final class AskTest {
         table();
         image();
         imageEdges();
+        imageThresholds();
         imageThrows();
         many();
         opening();
         openingEdges();
         light();
+        lightIsGreen();
         rail();
         blur();
         apart();
@@ -51,18 +53,22 @@ public final class AskTest {
         x.lens(11, 5, 7, 1);
         x.lens(12, 5, -50, 2);
         x.stop(13, 5);
+        x.lens(14, 5, 1, 2);
+        x.lens(15, 5, -1, 0);
         double[][] due = {
             {0.5, 0.5, 0.5},
             {0.07 * (1.0 - 0.02), 0.07, 0.07 * (1.0 + 0.02)},
             {-0.5 * (1.0 - 0.05), -0.5, -0.5 * (1.0 + 0.05)},
-            {0.0, 0.0, 0.0}};
+            {0.0, 0.0, 0.0},
+            {0.01 * (1.0 - 0.05), 0.01, 0.01 * (1.0 + 0.05)},
+            {-0.01, -0.01, -0.01}};
         for (int piece = 0; piece < due.length; piece++) {
             for (int colour = 0; colour <= 2; colour++) {
                 CHECK.real("strength(" + piece + ", " + colour + ")",
                         x.strength(piece, colour), due[piece][colour]);
             }
         }
-        CHECK.throwsOut("strength(4, 3)", () -> x.strength(4, 3));
+        CHECK.throwsOut("strength(6, 3)", () -> x.strength(6, 3));
         CHECK.throwsOut("strength(-1, 0)", () -> x.strength(-1, 0));
         CHECK.throwsWrong("strength(0, 3)", () -> x.strength(0, 3));
         CHECK.throwsWrong("strength(3, -1)", () -> x.strength(3, -1));
@@ -198,6 +204,39 @@ public final class AskTest {
         imageIs(onlyStop, 1, 1.0, -7.0, 1.0, 0.0, 0.0);
     }
 
+    /** Each {distance, power, glass}, so that D or C comes just above or just below 0.000001. */
+    private static void imageThresholds() {
+        Lensbench image = lenses(new int[][] {{4, -25, 2}, {3, 31, 2}, {20, 8, 2}});
+        double d = image.table(2, 3);
+        CHECK.whole("D is hardly above", d >= 0.000001 && d < 0.0000011 ? 1 : 0, 1);
+        CHECK.real("an image then", image.image(2, 0), 1.0);
+        CHECK.real("its back", image.image(2, 1), -(image.table(2, 1) / d));
+        Lensbench none = lenses(new int[][] {{6, 42, 2}, {2, 39, 1}, {15, 7, 1}});
+        d = Math.abs(none.table(2, 3));
+        CHECK.whole("D is hardly below", d < 0.000001 && d > 0.0000009 ? 1 : 0, 1);
+        for (int what = 0; what <= 3; what++) {
+            CHECK.real("no image then, " + what, none.image(2, what), 0.0);
+        }
+        Lensbench focus = lenses(new int[][] {{1, -41, 2}, {4, -38, 0}, {8, -1, 1}, {8, 6, 1}});
+        double c = focus.table(0, 2);
+        CHECK.whole("C is hardly above", Math.abs(c) >= 0.000001 && Math.abs(c) < 0.0000011 ? 1 : 0, 1);
+        CHECK.real("a focus then", focus.image(0, 4), -(1.0 / c));
+        Lensbench blunt = lenses(new int[][] {{10, 9, 2}, {17, 26, 1}, {6, -11, 0}});
+        c = Math.abs(blunt.table(0, 2));
+        CHECK.whole("C is hardly below", c < 0.000001 && c > 0.0000009 ? 1 : 0, 1);
+        CHECK.real("no focus then", blunt.image(0, 4), 0.0);
+    }
+
+    private static Lensbench lenses(int[][] rows) {
+        Lensbench x = new Lensbench();
+        int place = 0;
+        for (int[] row : rows) {
+            place += row[0];
+            x.lens(place, 20, row[1], row[2]);
+        }
+        return x;
+    }
+
     private static void imageThrows() {
         Lensbench x = one(10, 5, 10, 1);
         CHECK.throwsWrong("image(3, 0)", () -> x.image(3, 0));
@@ -257,7 +296,13 @@ public final class AskTest {
         openingIs(same, 1, 0.5);
         same.half(2, 14);
         openingIs(same, 2, 14 / 30.0);
-        // The first piece stands at B of 20; the second one, in its focus, at a B of 0.
+        // Behind this lens B is 10 in green, more in red, less in blue.
+        Lensbench green = one(10, 10, 10, 2);
+        green.stop(20, 10);
+        openingIs(green, 0, 1.0);
+        green.half(0, 11);
+        openingIs(green, 1, 1.0);
+        // The first piece stands at B of 20; the second one, in its image, at a B of 0.
         Lensbench left = new Lensbench();
         left.lens(20, 20, 10, 0);
         left.stop(40, 1);
@@ -284,6 +329,18 @@ public final class AskTest {
         CHECK.throwsOut("through(-1)", () -> x.through(-1));
         x.thing(10);
         CHECK.whole("through(1) at the thing", x.through(1), 0);
+    }
+
+    /** With red 13 of the fan would come through the stop, with blue 17. */
+    private static void lightIsGreen() {
+        Lensbench x = one(9, 20, 10, 2);
+        x.tall(0);
+        x.stop(49, 2);
+        CHECK.whole("through(1) in green", x.through(1), 15);
+        CHECK.whole("through(0) in green", x.through(0), 21);
+        CHECK.whole("light in green", x.many(6), 15);
+        x.stop(60, 20);
+        CHECK.whole("without(2) in green", x.without(2), 15);
     }
 
     private static void rail() {
