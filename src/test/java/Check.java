@@ -23,6 +23,11 @@ final class Check {
         judge(want.equals(got), call, got, want);
     }
 
+    /** Of doubles by the bits, as equals has it. */
+    void same(String call, Object got, Object want) {
+        judge(want.equals(got), call, String.valueOf(got), String.valueOf(want));
+    }
+
     void throwsOut(String call, Runnable run) {
         refuses(call, run, IndexOutOfBoundsException.class);
     }

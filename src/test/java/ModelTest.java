@@ -4,7 +4,7 @@ import java.util.List;
 /** Long runs of calls, right and wrong ones, against a second bench that is written without regard to cost. */
 public final class ModelTest {
     private static final int RUNS = 400;
-    private static final int CALLS = 300;
+    private static final int CALLS = 512;
     private static final int[] ODD = {-1, 0, 100, 99, 8, 21, 20, 3, 81, -81, 101, -101, 51, -51,
         Integer.MIN_VALUE, Integer.MAX_VALUE};
 
