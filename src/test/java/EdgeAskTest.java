@@ -365,6 +365,16 @@ public final class EdgeAskTest {
         for (int piece = 0; piece < due.length; piece++) {
             EDGE.answers(due[piece], "through", piece);
         }
+        EDGE.says("18 through: CUT at the last of 8 PIECES:", () -> {
+            Lensbench x = new Lensbench();
+            for (int place = 43; place <= 49; place++) {
+                x.stop(place, 20);
+            }
+            x.stop(50, 1);
+            return tallBy(x, 0);
+        });
+        EDGE.answers(21, "through", 6);
+        EDGE.answers(3, "through", 7);
         EDGE.says("18 through: none of the FAN:", () -> {
             Lensbench x = new Lensbench();
             x.stop(1, 20);

@@ -29,7 +29,9 @@ public final class EdgeTermsTest {
         graspWithoutAny();
         fanLeavesTheTop();
         fanHasTwentyOneSlopes();
+        lightIsGreen();
         blurIsOfThoseThatCome();
+        darkAfterLight();
         screenStaysBehindTheThing();
         firstNamedIsThrown();
         noneIsMinusZero();
@@ -476,6 +478,16 @@ public final class EdgeTermsTest {
         EDGE.answers(0.0, "blur", 1);
     }
 
+    /** In red 13 of the FAN would come through the STOP, in blue 17. */
+    private static void lightIsGreen() {
+        EDGE.says("LIGHT: how many of the FAN in GREEN:", () -> dot(row(lens(9, 10, 2), stop(40, 2), stop(11, 20))));
+        EDGE.answers(15, "many", 6);
+        EDGE.answers(21, "through", 0);
+        EDGE.answers(15, "through", 1);
+        EDGE.answers(15, "through", 2);
+        EDGE.answers(15, "without", 2);
+    }
+
     private static void blurIsOfThoseThatCome() {
         EDGE.says("BLUR: over those that come to the SCREEN:", () -> dot(row(stop(25, 1))));
         EDGE.answers((0.04 * 25 + 0.04 * 74) * 2, "blur", 1);
@@ -491,6 +503,31 @@ public final class EdgeTermsTest {
         EDGE.answers(0.0, "blur", 1);
         EDGE.says("BLUR: of a FAN that begins at the PIECE that is the last PLACE:", () -> dot(row(stop(98, 2))));
         EDGE.answers((0.02 * 98 + 0.02) * 2, "blur", 1);
+    }
+
+    /** What was asked while there was a FAN and a TRAIN is not told again when there is none. */
+    private static void darkAfterLight() {
+        EDGE.says("BLUR: 0.0 without any, though there was one before:", Lensbench::new);
+        Lensbench x = row(stop(25, 1));
+        x.tall(0);
+        EDGE.shows(x, (0.04 * 25 + 0.04 * 74) * 2, "blur", 1);
+        EDGE.shows(x, 5, "through", 0);
+        EDGE.shows(x, 26, "sharp", 1);
+        EDGE.shows(x, 51, "best", 0, 1);
+        x.tall(80);
+        x.move(0, 1);
+        EDGE.shows(x, 0.0, "blur", 1);
+        EDGE.shows(x, 0, "through", 0);
+        EDGE.shows(x, 0, "many", 6);
+        EDGE.shows(x, -1, "sharp", 1);
+        x.screen(2);
+        EDGE.shows(x, -1, "best", 0, 1);
+        EDGE.says("GRASP: 0.0 without such a one, though there was one before:", Lensbench::new);
+        EDGE.shows(x, 1.0, "grasp");
+        EDGE.shows(x, 0, "many", 5);
+        x.screen(1);
+        EDGE.shows(x, 0.0, "grasp");
+        EDGE.shows(x, -1, "many", 5);
     }
 
     // ---- what binds every call.

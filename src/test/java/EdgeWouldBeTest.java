@@ -37,6 +37,7 @@ public final class EdgeWouldBeTest {
         digestOfBenches();
         digestWraps();
         digestCuts();
+        digestOfFarImages();
         digestTellsApart();
         EDGE.end();
     }
@@ -285,6 +286,10 @@ public final class EdgeWouldBeTest {
         EDGE.answers(21, "many", 6);
         EDGE.answers(3, "without", 0);
         EDGE.answers(21, "without", 1);
+        EDGE.says("25 without: LIGHT is that of GREEN:",
+                () -> stopAt(stopAt(lensAt(bench(0, 99, 0), 9, 10, 2), 49, 2), 60, 20));
+        EDGE.answers(21, "without", 1);
+        EDGE.answers(15, "without", 2);
         EDGE.says("25 without: none comes all the same:",
                 () -> stopAt(stopAt(bench(0, 99, 80), 1, 1), 2, 1));
         EDGE.answers(0, "without", 0);
@@ -394,6 +399,7 @@ public final class EdgeWouldBeTest {
             EdgeWouldBeTest::three,
             EdgeWouldBeTest::full,
             () -> bench(98, 99, 80),
+            () -> lensAt(new Lensbench(), 20, 10, 2),
             () -> stopAt(bench(0, 99, 5), 1, 1),
             () -> lensAt(bench(0, 99, 0), 10, 10, 1),
             () -> lensAt(lensAt(bench(0, 60, 1), 40, -50, 2), 20, 50, 2),
@@ -424,6 +430,15 @@ public final class EdgeWouldBeTest {
         EDGE.holds("one below 0 is cut", below);
         EDGE.holds("one above 0 is cut", above);
         EDGE.answers(exactly(numbers(three())).longValue(), "digest");
+    }
+
+    /** A D of hardly above 0.000001 throws the image so far away that no int holds 4096.0 times its BACK. */
+    private static void digestOfFarImages() {
+        Edge.Bench far = () -> lensAt(lensAt(lensAt(new Lensbench(), 1, 37, 0), 31, 2, 2), 52, 1, 0);
+        EDGE.says("26 digest: of doubles beyond an int:", far);
+        double back = 4096.0 * far.made().image(0, 1);
+        EDGE.holds("BACK is so far", Math.abs(back) > Integer.MAX_VALUE);
+        EDGE.answers(exactly(numbers(far.made())).longValue(), "digest");
     }
 
     private static void digestTellsApart() {
